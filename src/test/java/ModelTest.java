@@ -51,7 +51,7 @@ public final class ModelTest {
         }
         if (!townless) {
             give(0, texts.town());
-            change(1, 1 + random.nextInt(10));
+            change(1, 1 + random.nextInt(random.nextInt(3) == 0 ? 30 : 10));
         }
         int calls = 20 + random.nextInt(80);
         for (int i = 0; i < calls && check.isRight(); i++) {
@@ -119,14 +119,7 @@ public final class ModelTest {
         switch (kind) {
             case 5:
                 int what = random.nextInt(6) - 1;
-                // so that asking all rows of MARKS stays possible
-                int v = what == 1 ? random.nextInt(11) : what == 3 ? random.nextInt(120) : small(4);
-                if (what == 1 && v > 10) {
-                    v = 10;
-                }
-                if (what == 1 && random.nextInt(10) == 0) {
-                    v = 31;
-                }
+                int v = what == 1 ? random.nextInt(random.nextInt(3) == 0 ? 32 : 11) : what == 3 ? random.nextInt(120) : small(4);
                 change(what, v);
                 break;
             case 6:
@@ -163,7 +156,7 @@ public final class ModelTest {
 
     private void ask(int kind, int a, int b) {
         int what = random.nextInt(8) == 0 ? small(2) : random.nextInt(2);
-        int bar = small(10);
+        int bar = random.nextInt(4) == 0 ? small(29) : small(10);
         String w = "(" + what + ")";
         switch (kind) {
             case 13:

@@ -458,11 +458,16 @@ final class NaiveBeat {
         return what == 0 ? best : least;
     }
 
-    /** Slow: asks all rows of MARKS. */
     int marks(int what) {
         if (hasNot(what)) {
             return NONE;
         }
+        int best = bars <= 10 ? marksByRows() : marksFromBehind();
+        return best == NONE || what == 1 ? best : Integer.bitCount(best);
+    }
+
+    /** Slow: asks all rows of MARKS. */
+    private int marksByRows() {
         int best = NONE;
         for (int bits = 0; bits < 1 << bars; bits++) {
             boolean[] these = new boolean[30];
@@ -474,7 +479,56 @@ final class NaiveBeat {
                 best = bits;
             }
         }
-        return best == NONE || what == 1 ? best : Integer.bitCount(best);
+        return best;
+    }
+
+    /** The highest mark as low as the number of MARKS lets it, then the next one. */
+    private int marksFromBehind() {
+        int left = fewestUpTo(bars - 1);
+        if (left == NONE) {
+            return NONE;
+        }
+        int bits = 0;
+        int end = bars - 1;
+        for (; left > 0; left--) {
+            int at = 0;
+            while (fewestUpTo(at) != left - 1 || !holds(at + 1, end)) {
+                at++;
+            }
+            bits |= 1 << at;
+            end = at;
+        }
+        return bits;
+    }
+
+    private int fewestUpTo(int end) {
+        int count = 0;
+        for (int start = 0; !holds(start, end); count++) {
+            int at = start;
+            while (holds(start, at)) {
+                at++;
+            }
+            if (at == start) {
+                return NONE;
+            }
+            start = at;
+        }
+        return count;
+    }
+
+    /** Whether all keep together in these bars if they begin them together. */
+    private boolean holds(int from, int to) {
+        boolean[] these = new boolean[30];
+        if (from > 0) {
+            these[from - 1] = true;
+        }
+        int[][] times = times(beat, these);
+        for (int bar = from; bar <= to; bar++) {
+            if (spreadOf(times[bar]) > limit) {
+                return false;
+            }
+        }
+        return true;
     }
 
     int odds(int player, int days) {
