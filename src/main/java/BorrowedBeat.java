@@ -916,15 +916,16 @@ public final class BorrowedBeat {
                 if (sign != '|' && sign != '&') {
                     return !waits || emit(-'|');
                 }
-                if (sign == '|' && waits) {
+                boolean isOr = sign == '|';
+                if (isOr && waits) {
                     emit(-'|');
                 }
-                waits |= sign == '|';
+                waits = isOr || waits;
                 at++;
                 if (!unit(within)) {
                     return false;
                 }
-                if (sign == '&') {
+                if (!isOr) {
                     emit(-'&');
                 }
             }
@@ -1021,7 +1022,9 @@ public final class BorrowedBeat {
         Law(int[] code) {
             boolean looksBack = false;
             for (int i = 0; i < code.length; i++) {
-                looksBack |= code[i] == -'o';
+                if (code[i] == -'o') {
+                    looksBack = true;
+                }
             }
             this.code = code;
             this.stack = new int[code.length];
