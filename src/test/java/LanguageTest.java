@@ -23,6 +23,8 @@ public final class LanguageTest {
         "System.nano", "System.current", "Thread", "instanceof", "static {", "Random", "HashMap", "Object ", "catch", "\" +", "+ \"",
         "getMessage", "MAX_VALUE", "MIN_VALUE", "while (true", "for (;;"};
 
+    private static final Set<String> FACE_NAMES = Set.of(FACE.replaceAll("\\([^ ]*", "").split(" "));
+
     private final Check check = new Check();
 
     public static void main(String[] args) throws IOException {
@@ -36,17 +38,12 @@ public final class LanguageTest {
     private void face() {
         check.due("public and final", BorrowedBeat.class.getModifiers(), Modifier.PUBLIC | Modifier.FINAL);
         Set<String> face = new TreeSet<>(List.of(FACE.split(" ")));
-        Set<String> names = new TreeSet<>();
-        for (String one : face) {
-            names.add(one.substring(0, one.indexOf('(')));
-        }
         Set<String> found = new TreeSet<>();
         for (Method method : BorrowedBeat.class.getDeclaredMethods()) {
             if (Modifier.isPublic(method.getModifiers())) {
                 found.add(signature(method));
             } else {
                 check.due(method + " is private", Modifier.isPrivate(method.getModifiers()), true);
-                check.due(method + " has a name of its own", names.contains(method.getName()), false);
             }
         }
         check.due("the face is " + found, found.equals(face), true);
@@ -90,6 +87,8 @@ public final class LanguageTest {
         check.due(one + " has some twenty fields", own <= 20, true);
         for (Method method : one.getDeclaredMethods()) {
             check.due(method + " takes at most seven", method.getParameterCount() <= 7, true);
+            boolean ofFace = one == BorrowedBeat.class && Modifier.isPublic(method.getModifiers());
+            check.due(method + " has a name of its own", !ofFace && FACE_NAMES.contains(method.getName()), false);
         }
     }
 
