@@ -224,6 +224,11 @@ public final class BorrowedBeat {
         return town.players > 0 && bar >= 0 && bar < score.bars;
     }
 
+    /** Whether there is a TOWN to answer one of two questions of. */
+    private boolean isOneOfTwo(int what) {
+        return town.players > 0 && (what == 0 || what == 1);
+    }
+
     // DAYS
 
     public int damp(int day) {
@@ -305,7 +310,7 @@ public final class BorrowedBeat {
     }
 
     public int worst(int what) {
-        if (town.players == 0 || what < 0 || what > 1) {
+        if (!isOneOfTwo(what)) {
             return NONE;
         }
         int most = play.perform(score, ENDLESS);
@@ -329,7 +334,7 @@ public final class BorrowedBeat {
     }
 
     public int settle(int what) {
-        if (town.players == 0 || what < 0 || what > 1 || !play.settles(score)) {
+        if (!isOneOfTwo(what) || !play.settles(score)) {
             return NONE;
         }
         return what == 0 ? play.settledFrom : play.settledLength;
@@ -360,7 +365,7 @@ public final class BorrowedBeat {
     }
 
     public int ends(int what) {
-        if (town.players == 0 || what < 0 || what > 1) {
+        if (!isOneOfTwo(what)) {
             return NONE;
         }
         play.perform(score, ENDLESS);
@@ -474,7 +479,7 @@ public final class BorrowedBeat {
     // What had best be told
 
     public int echoes(int what) {
-        if (town.players == 0 || what < 0 || what > 1) {
+        if (!isOneOfTwo(what)) {
             return NONE;
         }
         trial.copyFrom(score);
@@ -527,7 +532,7 @@ public final class BorrowedBeat {
     }
 
     public int marks(int what) {
-        if (town.players == 0 || what < 0 || what > 1) {
+        if (!isOneOfTwo(what)) {
             return NONE;
         }
         play.perform(score, ENDLESS);
@@ -540,7 +545,7 @@ public final class BorrowedBeat {
     // DAYS to come
 
     public int week(int what) {
-        if (town.players == 0 || what < 0 || what > 1 || diary.today + WEEK_DAYS > LAST_DAY + 1) {
+        if (!isOneOfTwo(what) || diary.today + WEEK_DAYS > LAST_DAY + 1) {
             return NONE;
         }
         if (!weekSearch.known) {
@@ -553,7 +558,7 @@ public final class BorrowedBeat {
     }
 
     public int gift(int what) {
-        if (town.players == 0 || what < 0 || what > 1 || diary.today > LAST_DAY) {
+        if (!isOneOfTwo(what) || diary.today > LAST_DAY) {
             return NONE;
         }
         int wet = wetness(diary.today);
