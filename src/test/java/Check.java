@@ -1,14 +1,43 @@
+import java.io.IOException;
+import java.nio.file.Files;
+import java.nio.file.Path;
+
 /** Counts the answers that are not the ones due, and helps to feed texts. */
 final class Check {
+    private static final Path DOCUMENT = Path.of("../shared/DOC.md");
+
     private int wrong;
     private int asked;
+    private int sentences;
+    private String words = "";
+    private String document;
+
+    /** The document's words that the next answers are about; told, but not wrong, if they stand there no more. */
+    void says(String quoted) {
+        sentences++;
+        words = "'" + quoted + "': ";
+        if (!document().isEmpty() && !document().contains(quoted)) {
+            System.out.println("the document does not say '" + quoted + "'");
+        }
+    }
+
+    private String document() {
+        if (document == null) {
+            try {
+                document = Files.exists(DOCUMENT) ? Files.readString(DOCUMENT).replaceAll("\\s+", " ") : "";
+            } catch (IOException e) {
+                document = "";
+            }
+        }
+        return document;
+    }
 
     void due(String call, long got, long want) {
         asked++;
         if (got != want) {
             wrong++;
             if (wrong <= 50) {
-                System.out.println(call + " answered " + got + ", due is " + want);
+                System.out.println(words + call + " answered " + got + ", due is " + want);
             }
         }
     }
@@ -22,7 +51,8 @@ final class Check {
     }
 
     void close(String name) {
-        System.out.println(name + ": " + asked + " answers, " + wrong + " wrong");
+        String of = sentences > 0 ? " of " + sentences + " sentences" : "";
+        System.out.println(name + ": " + asked + " answers" + of + ", " + wrong + " wrong");
         if (wrong != 0 || asked == 0) {
             System.exit(1);
         }

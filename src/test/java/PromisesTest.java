@@ -1,13 +1,7 @@
-import java.util.NoSuchElementException;
-
 /** Each promise by itself, with answers worked out by hand from the document. */
-public final class PromisesTest {
-    private static final int NONE = BorrowedBeat.NONE;
-    private static final int HIDDEN = BorrowedBeat.HIDDEN;
+public final class PromisesTest extends Asking {
     /** TIMES of PLAYER 1: 50 105 162 220 279 338 397 456 515; of PLAYER 0: 60 by 60 up to 540. */
     private static final String PAIR = "pb60;pb50f0h5;mb55";
-
-    private final Check check = new Check();
 
     public static void main(String[] args) {
         PromisesTest t = new PromisesTest();
@@ -50,52 +44,13 @@ public final class PromisesTest {
         t.check.close("PromisesTest");
     }
 
-    private void due(String call, long got, long want) {
-        check.due(call, got, want);
-    }
-
-    private void due(String call, boolean got, boolean want) {
-        check.due(call, got, want);
-    }
-
-    private void row(String call, int[] got, int... want) {
-        due(call + " length", got.length, want.length);
-        for (int i = 0; i < want.length && i < got.length; i++) {
-            due(call + " " + i, got[i], want[i]);
-        }
-    }
-
-    private static long player(BorrowedBeat x, int player, int what) {
-        try {
-            return x.player(player, what);
-        } catch (NoSuchElementException e) {
-            return Long.MIN_VALUE;
-        }
-    }
-
-    private static int[] beats(BorrowedBeat x, int player, int count) {
-        int[] row = new int[count];
-        for (int bar = 0; bar < count; bar++) {
-            row[bar] = x.time(player, bar, 2);
-        }
-        return row;
-    }
-
-    private static int[] times(BorrowedBeat x, int player, int what) {
-        int[] row = new int[x.count(6)];
-        for (int bar = 0; bar < row.length; bar++) {
-            row[bar] = x.time(player, bar, what);
-        }
-        return row;
-    }
-
     private void newObject() {
         BorrowedBeat x = new BorrowedBeat();
         int[] counts = {0, 60, 0, 0, 0, NONE, 9, 0, 20, 0, 0, 0};
         for (int what = 0; what < counts.length; what++) {
             due("new: count(" + what + ")", x.count(what), counts[what]);
         }
-        due("new: player", player(x, 0, 0), Long.MIN_VALUE);
+        due("new: player", player(x, 0, 0), THROWN);
         due("new: tell", x.tell(0, 1, 5), false);
         due("new: mark", x.mark(0, true), false);
         due("new: mark not", x.mark(0, false), false);
@@ -143,18 +98,6 @@ public final class PromisesTest {
         due("4 left", x.count(3), 4);
         due("pb61", x.text(0), 1);
         due("BEAT", player(x, 0, 0), 61);
-    }
-
-    private void towns(int fault, String... texts) {
-        for (String text : texts) {
-            due("fault(0) of '" + text + "'", Check.fault(0, text), fault);
-        }
-    }
-
-    private void laws(int fault, String... texts) {
-        for (String text : texts) {
-            due("fault(1) of '" + text + "'", Check.fault(1, text), fault);
-        }
     }
 
     private void faultOfTown() {
@@ -240,7 +183,7 @@ public final class PromisesTest {
         due("no FOLLOWS", player(x, 1, 4), NONE);
         Check.give(x, 0, "p");
         due("without an m", x.count(1), 60);
-        due("no more PLAYERS", player(x, 1, 0), Long.MIN_VALUE);
+        due("no more PLAYERS", player(x, 1, 0), THROWN);
     }
 
     /** What was worked out for one TOWN or one DAY must not answer for another. */
@@ -286,7 +229,7 @@ public final class PromisesTest {
         }
         int[][] none = {{2, 0}, {-1, 0}, {0, 7}, {0, -1}, {Integer.MAX_VALUE, 0}, {0, Integer.MIN_VALUE}};
         for (int[] one : none) {
-            due("player(" + one[0] + ", " + one[1] + ")", player(x, one[0], one[1]), Long.MIN_VALUE);
+            due("player(" + one[0] + ", " + one[1] + ")", player(x, one[0], one[1]), THROWN);
         }
         x.day(0);
         due("BEAT now", player(x, 0, 0), 60);
@@ -361,15 +304,7 @@ public final class PromisesTest {
     }
 
     private void law(String law, int... damps) {
-        BorrowedBeat x = Check.town("p;p;p;mb7");
-        due("LAW " + law, Check.give(x, 1, law), 0);
-        x.set(0, 0);
-        for (int day = damps.length - 1; day >= 0; day--) {
-            due("damp(" + day + ") by " + law, x.damp(day), damps[day]);
-        }
-        for (int day = 0; day < damps.length; day++) {
-            due("damp(" + day + ") again by " + law, x.damp(day), damps[day]);
-        }
+        dampsIn("p;p;p;mb7", law, damps);
     }
 
     private void damp() {
@@ -451,14 +386,6 @@ public final class PromisesTest {
         }
         row("held", beatsNow(x, 4), 160, 1, 199, 1);
         due("DAYS", x.count(4), 63);
-    }
-
-    private static int[] beatsNow(BorrowedBeat x, int players) {
-        int[] row = new int[players];
-        for (int i = 0; i < players; i++) {
-            row[i] = (int) player(x, i, 0);
-        }
-        return row;
     }
 
     private void undo() {
