@@ -178,6 +178,9 @@ public final class DayBoundsTest extends Asking {
         for (String right : so) {
             for (int i = 0; i < 3; i++) {
                 holds(true, so[i] + "&" + right, so[i] + "|" + right, notSo[i] + "|" + right, "!" + notSo[i] + "&" + right);
+                holds(true, so[i] + "&(" + right + ")", notSo[i] + "|(" + right + "&" + so[i] + ")", so[i] + "&!(" + notSo[i] + ")");
+                holds(false, notSo[i] + "&(" + right + ")", so[i] + "&(" + right + "&" + notSo[i] + ")", "(" + so[i] + ")&!(" + right + ")");
+                holds(true, "(" + so[i] + ")&(" + right + "|" + notSo[i] + ")&" + right, so[i] + "&(" + notSo[i] + "|(" + right + "))");
                 holds(false, notSo[i] + "&" + right, "!" + so[i] + "&" + right, notSo[i] + "|!" + right, "!(" + so[i] + "|" + right + ")");
             }
         }

@@ -168,7 +168,7 @@ public final class SearchBoundsTest extends Asking {
     }
 
     private void leader() {
-        says("LEADER of a PLAYER: whom it had best FOLLOW (by its HOW much; nobody, too), so that WORST is least (of several nobody, then the lowest)");
+        says("whom it had best FOLLOW (by its HOW much; nobody, too), so that WORST is least (of several nobody, then the lowest)");
         BorrowedBeat x = Check.town("pb60;pb50h10;pb60");
         due("the lowest of two", x.leader(1, 0), 0);
         due("WORST then", x.leader(1, 1), 10);

@@ -104,6 +104,22 @@ public final class TextBoundsTest extends Asking {
         due("no TEXT", x.fault(0), 0);
         Check.feed(x, "pb9");
         due("what was cut off does not come again", x.fault(0), NONE);
+        String cut = "p b  7 1;;dy:1 =  d?";
+        for (int n = 0; n <= cut.length(); n++) {
+            BorrowedBeat y = new BorrowedBeat();
+            Check.feed(y, cut);
+            y.end(n);
+            due("a TOWN of the first " + n, y.fault(0), Check.fault(0, cut.substring(0, n)));
+            due("a LAW of the first " + n, y.fault(1), Check.fault(1, cut.substring(0, n)));
+        }
+        BorrowedBeat y = new BorrowedBeat();
+        Check.feed(y, "y:1=  ");
+        y.end(4);
+        due("blanks cut off", y.fault(1), 4);
+        y.end(0);
+        Check.feed(y, "pb    ");
+        y.end(3);
+        due("all blanks but one cut off", y.fault(0), 3);
     }
 
     private void players() {
