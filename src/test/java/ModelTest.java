@@ -53,7 +53,7 @@ public final class ModelTest {
             give(0, texts.town());
             change(1, 1 + random.nextInt(random.nextInt(3) == 0 ? 30 : 10));
         }
-        int calls = 20 + random.nextInt(80);
+        int calls = random.nextInt(5) == 0 ? 230 : 20 + random.nextInt(80);
         for (int i = 0; i < calls && check.isRight(); i++) {
             step();
         }

@@ -482,38 +482,26 @@ final class NaiveBeat {
         return best;
     }
 
-    /** The highest mark as low as the number of MARKS lets it, then the next one. */
+    /** From each bar on by itself: whoever begins later may part sooner, so that no first mark is better than all others. */
     private int marksFromBehind() {
-        int left = fewestUpTo(bars - 1);
-        if (left == NONE) {
-            return NONE;
-        }
-        int bits = 0;
-        int end = bars - 1;
-        for (; left > 0; left--) {
-            int at = 0;
-            while (fewestUpTo(at) != left - 1 || !holds(at + 1, end)) {
-                at++;
+        int[] best = new int[bars];
+        for (int from = bars - 1; from >= 0; from--) {
+            best[from] = holds(from, bars - 1) ? 0 : NONE;
+            for (int at = from; best[from] != 0 && at < bars - 1 && holds(from, at); at++) {
+                if (best[at + 1] != NONE) {
+                    best[from] = better(best[from], best[at + 1] | 1 << at);
+                }
             }
-            bits |= 1 << at;
-            end = at;
         }
-        return bits;
+        return best[0];
     }
 
-    private int fewestUpTo(int end) {
-        int count = 0;
-        for (int start = 0; !holds(start, end); count++) {
-            int at = start;
-            while (holds(start, at)) {
-                at++;
-            }
-            if (at == start) {
-                return NONE;
-            }
-            start = at;
+    private static int better(int marks, int others) {
+        if (marks == NONE) {
+            return others;
         }
-        return count;
+        int fewer = Integer.compare(Integer.bitCount(marks), Integer.bitCount(others));
+        return fewer < 0 || fewer == 0 && marks < others ? marks : others;
     }
 
     /** Whether all keep together in these bars if they begin them together. */

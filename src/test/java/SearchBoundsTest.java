@@ -12,6 +12,7 @@ public final class SearchBoundsTest extends Asking {
         t.leaderOfNone();
         t.marks();
         t.marksOfSeveral();
+        t.marksNotTheLatest();
         t.marksOfNone();
         t.odds();
         t.oddsHeld();
@@ -284,6 +285,29 @@ public final class SearchBoundsTest extends Asking {
         BorrowedBeat swap = Check.town("pb60f1h10;pb50f0h10");
         swap.set(3, 10);
         marksOf(swap, 0, 0);
+    }
+
+    /** A mark as late as can be is not always the best one: whoever begins anew later may part sooner. */
+    private void marksNotTheLatest() {
+        says("MARKS: the fewest bars MARKED (these, no others) so that no SPREAD is above LIMIT");
+        // bar by bar PLAYER 0 takes 10 parts less, 10 more in four bars, 10 less in four bars: a mark at bar 3 parts them
+        // at bar 8 again, one at bar 2 does not
+        BorrowedBeat x = Check.town("pb87f1h10;pb97f0h10");
+        x.set(2, 3);
+        for (int limit = 20; limit < 30; limit++) {
+            x.set(3, limit);
+            marksOf(x, 1, 4);
+        }
+        x.mark(2, true);
+        due("held by the mark at bar 2", x.parts(), NONE);
+        x.mark(2, false);
+        x.mark(3, true);
+        due("parted behind the mark at bar 3", x.parts(), 8);
+        BorrowedBeat six = Check.town("p;pb98f3h5;pb96f5h7;pb42f1h4;p;p");
+        six.set(1, 21);
+        six.set(2, 3);
+        six.set(3, 87);
+        marksOf(six, 2, 1 << 3 | 1 << 12);
     }
 
     private void marksOfNone() {
